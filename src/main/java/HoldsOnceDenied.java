@@ -428,7 +428,7 @@ public final class HoldsOnceDenied {
     }
 
     private static boolean has(int bits, int i) {
-        return (bits & bit(i)) != 0;
+        return i >= 0 && i < MOST_SENTENCES && (bits >> i & 1) != 0;
     }
 
     private static boolean within(int part, int whole) {

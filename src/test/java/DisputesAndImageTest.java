@@ -62,6 +62,7 @@ public final class DisputesAndImageTest {
             }
         }
         due("P23 in mind only", x.count(3) + x.count(2), 0);
+        due("P23 one of each", Check.schoolOf("s;d00;").seeded(1, 7), 1);
         due("P23 n below", x.seeded(0, 1), -1);
         due("P23 n above", x.seeded(41, 1), -1);
         due("P23 no deniers", Check.schoolOf("s;").seeded(1, 1), -3);
@@ -104,6 +105,8 @@ public final class DisputesAndImageTest {
         due("P24 what is ahead goes first", told(text, 2, 0, 0, 0, 9).judge(1), 2);
         HoldsOnceDenied x = told(text, 2, 0, 0, 1);
         due("P24 in mind only", x.judge(1) + x.count(3) + x.count(2), -4);
+        x.seeded(40, 1);
+        due("P24 whatever was in mind ahead", x.judge(1), -4);
         x.die(0);
         due("P24 a dead one may not", x.judge(1), 1);
         due("P24 no shelf", x.judge(8), -1);

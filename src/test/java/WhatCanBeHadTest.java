@@ -49,6 +49,13 @@ public final class WhatCanBeHadTest {
         due("P15 below", x.soonest(-1), -1);
         due("P16 no such", x.first(5), -1);
         due("P16 below", x.first(-1), -1);
+        due("P16 of a fresh one", Check.schoolOf("s;s;n01;d00;").first(0), 1);
+        due("P16 of what needs nothing", Check.schoolOf("s;s;d00;").first(1), 1);
+        HoldsOnceDenied v = Check.schoolOf("s;s;n10;d00;");
+        v.deny(0, 0);
+        due("P16 after a denial", v.first(1), 1);
+        v.die(0);
+        due("P15 after a death", v.soonest(1), -4);
         HoldsOnceDenied y = Check.schoolOf("s;s;n01;n10;d00;");
         due("P15 never", y.soonest(0), -4);
         due("P16 never", y.first(0), -4);
@@ -80,6 +87,8 @@ public final class WhatCanBeHadTest {
         due("P18 true already", Check.schoolOf("s;s;t0;t1;d00;").all(), 0);
         HoldsOnceDenied x = Check.schoolOf("s;s;s;n10;n21;d00;d50;d21;k20;");
         due("P18 each by the cheapest", x.all(), 3);
+        x.deny(0, 0);
+        due("P18 after a denial", x.all(), 2);
     }
 
     private static void atOnce() {
@@ -88,6 +97,9 @@ public final class WhatCanBeHadTest {
         due("P19 the cheapest two", x.atOnce(1), 5);
         due("P19 what above", x.atOnce(2), -1);
         due("P19 what below", x.atOnce(-1), -1);
+        HoldsOnceDenied v = Check.schoolOf("s;s;s;d50;d10;");
+        due("P19 three free sentences, two deniers", v.atOnce(0), 2);
+        due("P19 both have their price", v.atOnce(1), 9);
         HoldsOnceDenied y = Check.schoolOf("s;s;s;d50;d41;d41;");
         due("P19 the hired one takes 0, so the friends 2", y.atOnce(0), 2);
         due("P19 prices", y.atOnce(1), 12);
@@ -106,6 +118,8 @@ public final class WhatCanBeHadTest {
     }
 
     private static void hire() {
+        HoldsOnceDenied one = Check.schoolOf("s;s;s;n01;n10;d00;k00;");
+        due("P20 what another helps to", one.hire(5, 1), 3);
         HoldsOnceDenied x = Check.schoolOf("s;s;s;n10;");
         due("P20 a denier would do", x.hire(0, 0), 0);
         due("P20 how many", x.hire(0, 1), 3);
@@ -133,6 +147,7 @@ public final class WhatCanBeHadTest {
         due("P21 below", x.canHave(-1), -1);
         x.die(2);
         due("P21 dead ones as if alive", x.canHave(0), 0b110111);
+        due("P21 not by a deaf one", Check.schoolOf("s;d30;d00;x10;").canHave(0), 0b10);
         HoldsOnceDenied y = Check.schoolOf("s;s;n10;d00;k00;d00;d60;d61;d79;x01;");
         due("P21 what he needs he must know", y.canHave(1), 0b00001);
         due("P21 on an odd day", y.count(2), 1);

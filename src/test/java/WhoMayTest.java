@@ -96,6 +96,7 @@ public final class WhoMayTest {
     private static void whatIsLonely() {
         due("P13 no sentences", new HoldsOnceDenied().lonely(), 0);
         due("P13 no deniers", Check.schoolOf("s;s;t0;s;").lonely(), 0b110);
+        due("P13 the first may be lonely", Check.schoolOf("s;s;d00;k00;").lonely(), 0b01);
         due("P13 one who knows", five(0, 0, "k01;k03;").lonely(), 0b01010);
         due("P13 another may", five(0, 0, "k01;k03;d51;").lonely(), 0b01000);
         HoldsOnceDenied x = five(0, 0, "k01;k03;d30;");
