@@ -867,11 +867,9 @@ public final class HoldsOnceDenied {
             return true;
         }
 
+        // A need that holds by now may be told again: only one sentence twice is not as told.
         boolean addNeed(int sentence, int needed) {
-            if (!hasSentence(sentence) || !hasSentence(needed) || sentence == needed) {
-                return false;
-            }
-            if (sentence >= needs.length || has(needs[sentence], needed)) {
+            if (!hasSentence(sentence) || !hasSentence(needed) || sentence == needed || sentence >= needs.length) {
                 return false;
             }
             needs[sentence] |= bit(needed);

@@ -13,7 +13,62 @@ public final class AgainstModelTest {
         for (int seed = 0; seed < 2500; seed++) {
             oneSchool(100000 + seed, 5 + seed % 5, seed % 7, false);
         }
+        for (int seed = 0; seed < 3000; seed++) {
+            textsBehindTexts(seed);
+        }
         CHECK.finish();
+    }
+
+    /** Texts of whole statements, many of them not as told, read one behind the other on one object. */
+    private static void textsBehindTexts(int seed) {
+        Random random = new Random(200000 + seed);
+        HoldsOnceDenied x = new HoldsOnceDenied();
+        Model m = new Model();
+        for (int texts = 0; texts < 3; texts++) {
+            String text = statements(random, m.sentences() + m.deniers() == 0);
+            Model mind = m.copy();
+            int due = read(mind, text);
+            CHECK.due("seed " + seed + " text " + texts + " '" + text + "'", Check.read(x, text), due);
+            m = due < 0 ? m : mind;
+            sentences("seed " + seed + " text " + texts, x, m);
+            deniers("seed " + seed + " text " + texts, x, m);
+            CHECK.due("seed " + seed + " count(0)", x.count(0), m.sentences());
+            CHECK.due("seed " + seed + " count(1)", x.count(1), m.deniers());
+            CHECK.due("seed " + seed + " count(2)", x.count(2), m.day);
+            if (m.deniers() > 0 && random.nextInt(3) == 0) {
+                int i = random.nextInt(m.deniers());
+                CHECK.due("seed " + seed + " die", x.die(i), m.alive.get(i) ? Integer.bitCount(m.die(i)) : -3);
+            }
+        }
+    }
+
+    private static String statements(Random random, boolean first) {
+        StringBuilder b = new StringBuilder(first ? "s;s;s;d00;" : "");
+        for (int more = 1 + random.nextInt(8); more > 0; more--) {
+            char letter = "sntdkxnkx".charAt(random.nextInt(9));
+            b.append(letter);
+            for (int digits = letter == 's' ? 0 : letter == 't' ? 1 : 2; digits > 0; digits--) {
+                b.append((char) ('0' + random.nextInt(random.nextInt(12) == 0 ? 10 : 3)));
+            }
+            b.append(';');
+        }
+        return b.toString();
+    }
+
+    /** How many statements, or the fault of the second kind; the model is spoilt then. */
+    private static int read(Model m, String text) {
+        int place = 0;
+        int read = 0;
+        for (String statement : text.split(";")) {
+            int one = statement.length() > 1 ? statement.charAt(1) - '0' : -1;
+            int two = statement.length() > 2 ? statement.charAt(2) - '0' : -1;
+            if (!m.tell(statement.charAt(0), one, two)) {
+                return -2000 - place;
+            }
+            place += statement.length() + 1;
+            read++;
+        }
+        return read;
     }
 
     private static void oneSchool(int seed, int sentences, int deniers, boolean ahead) {
@@ -54,7 +109,7 @@ public final class AgainstModelTest {
         int r = random.nextInt(m.sentences());
         int i = m.deniers() == 0 ? 0 : random.nextInt(m.deniers());
         int which = random.nextInt(8);
-        if (which < 4 && s != r && !m.needs.get(s).contains(r)) {
+        if (which < 4 && s != r) {
             b.append('n').append(s).append(r).append(';');
             m.needs.get(s).add(r);
         } else if (which == 4 && !m.isTrue.get(s)) {

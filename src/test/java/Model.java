@@ -57,6 +57,48 @@ final class Model {
         since.set(s, day);
     }
 
+    /** Whether a statement is as told; if so it comes. */
+    boolean tell(char letter, int one, int two) {
+        switch (letter) {
+            case 's':
+                if (sentences() == 9) {
+                    return false;
+                }
+                addSentence();
+                return true;
+            case 'n':
+                if (one >= sentences() || two >= sentences() || one == two) {
+                    return false;
+                }
+                needs.get(one).add(two);
+                return true;
+            case 't':
+                if (one >= sentences() || isTrue.get(one)) {
+                    return false;
+                }
+                found(one);
+                return true;
+            case 'd':
+                if (one > 7 || deniers() == 6) {
+                    return false;
+                }
+                addDenier(one, two);
+                return true;
+            case 'k':
+                if (one >= deniers() || two >= sentences()) {
+                    return false;
+                }
+                knows.get(one).add(two);
+                return true;
+            default:
+                if (one >= deniers() || two >= sentences() || !may(one, two)) {
+                    return false;
+                }
+                deny(one, two);
+                return true;
+        }
+    }
+
     int sentences() {
         return needs.size();
     }

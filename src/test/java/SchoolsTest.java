@@ -7,6 +7,7 @@ public final class SchoolsTest {
         schoolsAreRead();
         faultsOfTheFirstKind();
         faultsOfTheSecondKind();
+        needsAreToldAgain();
         aSchoolComesToWhatThereIs();
         sentencesAreTold();
         deniersAreTold();
@@ -76,11 +77,11 @@ public final class SchoolsTest {
     }
 
     private static void faultsOfTheSecondKind() {
-        String[] texts = {"n01;", "s;n01;", "s;n10;", "s;s;n00;", "s;s;n01;n01;", "t0;", "s;t0;t0;", "d80;", "d90;",
+        String[] texts = {"n01;", "s;n01;", "s;n10;", "s;s;n00;", "s;s;n01;n00;", "s;s;n01;n11;", "t0;", "s;t0;t0;", "d80;", "d90;",
             "d00;d00;d00;d00;d00;d00;d00;", "s;s;s;s;s;s;s;s;s;s;", "k00;", "s;k00;", "d00;k00;", "x00;", "s;x00;",
             "d00;x00;", "s;d00;k00;x00;", "s;t0;d10;x00;", "s;s;n01;d20;x00;", "s;d40;x00;", "s;s;d50;x01;",
             "s;d71;x00;", "s;d00;t0;x00;n00;", "s;d00;x00;t0;"};
-        int[] places = {0, 2, 2, 4, 8, 0, 5, 0, 0, 24, 18, 0, 2, 4, 0, 2, 4, 10, 9, 12, 6, 8, 6, 9, 10};
+        int[] places = {0, 2, 2, 4, 8, 8, 0, 5, 0, 0, 24, 18, 0, 2, 4, 0, 2, 4, 10, 9, 12, 6, 8, 6, 9, 10};
         for (int i = 0; i < texts.length; i++) {
             HoldsOnceDenied x = new HoldsOnceDenied();
             due("P2 fault in '" + texts[i] + "'", Check.read(x, texts[i]), -2000 - places[i]);
@@ -91,6 +92,26 @@ public final class SchoolsTest {
         due("P2 a deaf one may", Check.read(new HoldsOnceDenied(), "s;t0;d30;x00;"), 4);
     }
 
+    private static void needsAreToldAgain() {
+        HoldsOnceDenied x = new HoldsOnceDenied();
+        due("P2 a need twice in a text", Check.read(x, "s;s;n01;n01;"), 4);
+        due("P2 it needs it once", x.sentence(0, 0), 2);
+        due("P2 the needed one needs nothing", x.sentence(1, 0), 0);
+        due("P2 a need twice by two texts", Check.read(x, "n01;"), 1);
+        due("P2 it needs it once still", x.sentence(0, 0), 2);
+        due("P2 one need more", Check.read(x, "n01;n10;d00;n01;"), 4);
+        due("P2 needs of the first", x.sentence(0, 0), 2);
+        due("P2 needs of the second", x.sentence(1, 0), 1);
+        due("P2 steps count it once", x.steps(0, 0), 2);
+        due("P2 one sentence twice in one n", Check.read(x, "n01;n00;"), -2004);
+        due("P2 the other twice in one n", Check.read(x, "n11;"), -2000);
+        due("P2 needs as before", x.sentence(0, 0), 2);
+        HoldsOnceDenied y = Check.schoolOf("s;s;s;n01;n10;t2;n02;d71;d60;k10;k01;");
+        due("P2 a text twice fails at its t", y.school(0), -2014);
+        due("P2 nothing of it comes", y.count(0), 3);
+        due("P2 needs as they were", y.sentence(0, 0), 6);
+    }
+
     private static void aSchoolComesToWhatThereIs() {
         HoldsOnceDenied x = Check.schoolOf("s;s;n10;d00;x00;");
         due("P2 more", Check.read(x, "s;n21;t2;d25;k12;"), 5);
@@ -98,7 +119,7 @@ public final class SchoolsTest {
         due("P2 deniers", x.count(1), 2);
         due("P2 founder's day", x.sentence(2, 3), 1);
         due("P2 founder's", x.sentence(2, 2), -4);
-        due("P2 need is there already", Check.read(x, "n10;"), -2000);
+        due("P2 need is there already", Check.read(x, "n10;"), 1);
         due("P2 true already", Check.read(x, "t0;"), -2000);
         x.die(0);
         due("P2 a dead one may not", Check.read(x, "x00;"), -2000);
