@@ -33,7 +33,9 @@ final class Check {
     }
 
     static void fill(HoldsOnceDenied x, int d, int sort, int... values) {
-        x.row(d, sort, values.length);
+        if (x.row(d, sort, values.length) != 0) {
+            throw new IllegalStateException("a test's own row is refused");
+        }
         for (int i = 0; i < values.length; i++) {
             x.put(d, i, values[i]);
         }
