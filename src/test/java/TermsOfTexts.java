@@ -1,6 +1,7 @@
 import java.io.IOException;
 import java.nio.file.Files;
 import java.nio.file.Path;
+import java.util.Arrays;
 
 /** Terms: shelves and their refusals, the text of a school, what is said once more, what the interface says. */
 final class TermsOfTexts {
@@ -160,8 +161,8 @@ final class TermsOfTexts {
         said.that("12 DENIALS at most: -11, -12 (no ROW of bytes), -13 (not as told).");
         int[] deaf = {1, 0, 1, 1, 1, 0, 1, 1, 1, 0, 1, 1, 1, 0, 1, 1, 1, 0, 1, 1, 1, 0, 1, 1};
         said.due("twelve", denials(deaf).run(1, 1), 12);
-        said.due("thirteen", denials(java.util.Arrays.copyOf(deaf, 26)).run(1, 1), -13);
-        said.due("twelve and a half", denials(java.util.Arrays.copyOf(deaf, 25)).run(1, 1), -13);
+        said.due("thirteen", denials(Arrays.copyOf(deaf, 26)).run(1, 1), -13);
+        said.due("twelve and a half", denials(Arrays.copyOf(deaf, 25)).run(1, 1), -13);
         said.due("one half", denials(0).run(1, 1), -13);
         said.due("no denier 2", denials(0, 0, 2, 0).run(1, 1), -13);
         said.due("no denier below 0", denials(-1, 0).run(1, 1), -13);
